@@ -86,17 +86,8 @@ public final class PeaCups {
             return OUTSIDE;
         }
         int refusal = followPad();
-        if (refusal == NO || (what == 2 && refusal == STATE)) {
-            return refusal;
-        }
-        switch (what) {
-            case 0:
-                return telling.stopped;
-            case 1:
-                return telling.why;
-            default:
-                return telling.won;
-        }
+        boolean isRefused = refusal == NO || (what == 2 && refusal == STATE);
+        return isRefused ? refusal : telling.ofText(what);
     }
 
     public int behind(int watcher, int what) {
@@ -107,17 +98,7 @@ public final class PeaCups {
             return OUTSIDE;
         }
         int refusal = followPad();
-        if (refusal != 0) {
-            return refusal;
-        }
-        switch (what) {
-            case 0:
-                return telling.table.thinksOf(watcher);
-            case 1:
-                return telling.table.coinOf(watcher);
-            default:
-                return telling.table.isWrong(watcher) ? 1 : 0;
-        }
+        return refusal != 0 ? refusal : telling.ofWatcher(watcher, what);
     }
 
     public int table(int place) {
@@ -133,10 +114,7 @@ public final class PeaCups {
             return OUTSIDE;
         }
         int refusal = followPad();
-        if (refusal != 0) {
-            return refusal;
-        }
-        return what == 0 ? telling.table.peaPlace() : telling.table.peaCupOrNone();
+        return refusal != 0 ? refusal : telling.ofPea(what);
     }
 
     public int first(int what) {
@@ -144,17 +122,7 @@ public final class PeaCups {
             return OUTSIDE;
         }
         int refusal = followPad();
-        if (refusal != 0) {
-            return refusal;
-        }
-        switch (what) {
-            case 0:
-                return telling.wrongAct;
-            case 1:
-                return telling.wrongWatcher;
-            default:
-                return telling.table.round;
-        }
+        return refusal != 0 ? refusal : telling.ofFirstWrong(what);
     }
 
     public int done() {
@@ -255,14 +223,7 @@ public final class PeaCups {
             return OUTSIDE;
         }
         telling.followDraws(now, seed, m);
-        switch (what) {
-            case 0:
-                return telling.table.peaPlace();
-            case 1:
-                return Integer.bitCount(telling.table.wrongWatchers());
-            default:
-                return telling.table.coinOf(0);
-        }
+        return telling.ofYear(what);
     }
 
     public int image(int k) {
@@ -736,10 +697,6 @@ public final class PeaCups {
             return peaCup == HAND ? NONE : peaCup;
         }
 
-        boolean isWrong(int watcher) {
-            return (wrongWatchers() >> watcher & 1) == 1;
-        }
-
         int wrongWatchers() {
             int where = peaPlace();
             int wrong = 0;
@@ -832,10 +789,10 @@ public final class PeaCups {
         private final Act act = new Act();
         int acts;
         int stopped;
-        int why;
-        int won;
-        int wrongAct;
-        int wrongWatcher;
+        private int why;
+        private int won;
+        private int wrongAct;
+        private int wrongWatcher;
 
         void followText(Table from, Pad pad) {
             begin(from);
@@ -890,6 +847,55 @@ public final class PeaCups {
                     wrongAct = acts;
                     wrongWatcher = watcher;
                 }
+            }
+        }
+
+        int ofText(int what) {
+            switch (what) {
+                case 0:
+                    return stopped;
+                case 1:
+                    return why;
+                default:
+                    return won;
+            }
+        }
+
+        int ofWatcher(int watcher, int what) {
+            switch (what) {
+                case 0:
+                    return table.thinksOf(watcher);
+                case 1:
+                    return table.coinOf(watcher);
+                default:
+                    return table.wrongWatchers() >> watcher & 1;
+            }
+        }
+
+        int ofPea(int what) {
+            return what == 0 ? table.peaPlace() : table.peaCupOrNone();
+        }
+
+        /** The round is the one behind the whole text, whether somebody was wrong or not. */
+        int ofFirstWrong(int what) {
+            switch (what) {
+                case 0:
+                    return wrongAct;
+                case 1:
+                    return wrongWatcher;
+                default:
+                    return table.round;
+            }
+        }
+
+        int ofYear(int what) {
+            switch (what) {
+                case 0:
+                    return table.peaPlace();
+                case 1:
+                    return Integer.bitCount(table.wrongWatchers());
+                default:
+                    return table.coinOf(0);
             }
         }
     }

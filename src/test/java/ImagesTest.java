@@ -29,7 +29,9 @@ public final class ImagesTest {
         }
         x.forget();
         x.weigh(1 << number, 2 << number, number);
-        x.weigh(3, 48, 0);
+        for (int i = 1; i < number; i++) {
+            x.weigh(3, 48, 0);
+        }
         Due.say(x, ".".repeat(number));
         x.done();
     }

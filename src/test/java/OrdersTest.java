@@ -94,8 +94,14 @@ public final class OrdersTest {
                     byIs(x, from, all.get(i), set);
                 }
                 byIs(x, from, from, set);
+                byIs(x, from, "543210", set);
             }
         }
+        byIs(new PeaCups(), "012345", "543210", NEIGHBOURS);
+        PeaCups last = new PeaCups();
+        last.cups(543210, 0);
+        byIs(last, "543210", "012345", NEIGHBOURS);
+        byIs(last, "543210", "345012", 31);
     }
 
     private static void byIs(PeaCups x, String from, String to, int set) {
