@@ -336,7 +336,7 @@ public final class PeaCups {
 
         static int placeOf(int order, int cup) {
             for (int place = 0; place < PLACES; place++) {
-                if (cupOn(order, place) == cup) {
+                if ((order >> 3 * place & 7) == cup) {
                     return place;
                 }
             }
@@ -344,7 +344,7 @@ public final class PeaCups {
         }
 
         static int changed(int order, int one, int other) {
-            int difference = cupOn(order, one) ^ cupOn(order, other);
+            int difference = (order >> 3 * one ^ order >> 3 * other) & 7;
             return order ^ difference << 3 * one ^ difference << 3 * other;
         }
 
@@ -462,7 +462,7 @@ public final class PeaCups {
             Arrays.fill(steps, NONE);
             queued = 0;
             reach(to, 0);
-            for (int i = 0; i < queued && stepsFrom(from) == NONE; i++) {
+            for (int i = 0; i < Orders.COUNT && i < queued && stepsFrom(from) == NONE; i++) {
                 reachBeside(queue[i], pairs);
             }
         }

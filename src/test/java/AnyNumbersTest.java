@@ -17,13 +17,14 @@ public final class AnyNumbersTest {
         Method[] calls = PeaCups.class.getDeclaredMethods();
         calls = Arrays.stream(calls).filter(m -> java.lang.reflect.Modifier.isPublic(m.getModifiers()))
             .sorted(Comparator.comparing(Method::getName)).toArray(Method[]::new);
-        for (int run = 0; run < 4000; run++) {
+        for (int run = 0; run < 6000; run++) {
             PeaCups x = new PeaCups();
-            int unlooked = run % 2 == 0 ? 500 : 150;
-            for (int i = 0; i < unlooked; i++) {
+            boolean isLookedAt = run % 2 == 1;
+            // A call that is looked at takes some 75, and nothing is promised behind the 512th.
+            for (int i = 0; i < (isLookedAt ? 200 : 512); i++) {
                 callOne(x, calls[random.nextInt(calls.length)], false);
             }
-            for (int i = unlooked; i < 158; i++) {
+            for (int i = 0; i < (isLookedAt ? 4 : 0); i++) {
                 callOne(x, calls[random.nextInt(calls.length)], true);
             }
         }
