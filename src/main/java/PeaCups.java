@@ -328,7 +328,6 @@ public final class PeaCups {
         static final int COUNT = 720;
         static final int OWN_PLACES = 5 << 15 | 4 << 12 | 3 << 9 | 2 << 6 | 1 << 3;
         private static final int HIGHEST_ROW = 543210;
-        private static final int[] ORDERS_OF_THE_REST = {120, 24, 6, 2, 1, 1};
 
         static int cupOn(int order, int place) {
             return order >> 3 * place & 7;
@@ -387,14 +386,25 @@ public final class PeaCups {
         static int ofRank(int rank) {
             int order = 0;
             int left = ALL_PLACES;
-            int rest = rank;
+            int lesser = lesserCupsLeft(rank);
             for (int place = 0; place < PLACES; place++) {
-                int cup = nthCup(left, rest / ORDERS_OF_THE_REST[place]);
-                rest %= ORDERS_OF_THE_REST[place];
+                int cup = nthCup(left, cupOn(lesser, place));
                 order |= cup << 3 * place;
                 left &= ~(1 << cup);
             }
             return order;
+        }
+
+        /** For each place, three bits each, how many of the cups that are left there are less than its own. */
+        private static int lesserCupsLeft(int rank) {
+            int lesser = 0;
+            int rest = rank;
+            for (int place = PLACES - 1; place >= 0; place--) {
+                int cupsLeft = PLACES - place;
+                lesser |= rest % cupsLeft << 3 * place;
+                rest /= cupsLeft;
+            }
+            return lesser;
         }
 
         private static int nthCup(int set, int n) {

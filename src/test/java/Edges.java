@@ -1,22 +1,32 @@
 import java.lang.reflect.InvocationTargetException;
 import java.lang.reflect.Method;
+import java.lang.reflect.Modifier;
 import java.util.Arrays;
 import java.util.HashMap;
 import java.util.Map;
+import java.util.Set;
+import java.util.TreeMap;
 import java.util.TreeSet;
 
 /** Calls by name at the bounds of their numbers; what is refused is refused in every state, and changes nothing. */
 final class Edges {
-    private static final Map<String, Method> METHODS = new HashMap<>();
+    private static final Map<String, Method> METHODS = new TreeMap<>();
 
     static {
-        for (Method method : PeaCups.class.getMethods()) {
-            METHODS.put(method.getName(), method);
+        for (Method method : PeaCups.class.getDeclaredMethods()) {
+            if (Modifier.isPublic(method.getModifiers())) {
+                METHODS.put(method.getName(), method);
+            }
         }
     }
 
     private final Due due = new Due();
     private final Map<String, String> shown = new HashMap<>();
+
+    /** The calls that the class has. */
+    static Set<String> names() {
+        return METHODS.keySet();
+    }
 
     static long call(PeaCups x, String name, int... numbers) {
         try {
