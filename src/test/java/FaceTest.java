@@ -36,14 +36,20 @@ public final class FaceTest {
     }
 
     private static void members() {
-        due.holds("public and final", Modifier.isFinal(PeaCups.class.getModifiers()));
+        int modifiers = PeaCups.class.getModifiers();
+        due.holds("public and final", Modifier.isPublic(modifiers) && Modifier.isFinal(modifiers));
         due.same("constructors", PeaCups.class.getDeclaredConstructors().length, 1);
+        due.same("public constructors without numbers", PeaCups.class.getConstructors()[0].getParameterCount(), 0);
         Set<String> found = new TreeSet<>();
         Set<String> hidden = new TreeSet<>();
         for (Method m : PeaCups.class.getDeclaredMethods()) {
             due.holds(m + " is public or private", (m.getModifiers() & (Modifier.PUBLIC | Modifier.PRIVATE)) != 0);
             if (Modifier.isPublic(m.getModifiers())) {
                 found.add(m.getReturnType() + " " + m.getName() + " " + m.getParameterCount());
+                due.holds(m + " is of objects", !Modifier.isStatic(m.getModifiers()));
+                for (Class<?> number : m.getParameterTypes()) {
+                    due.holds(m + " takes ints", number == int.class);
+                }
             } else {
                 hidden.add(m.getName());
             }
@@ -55,11 +61,22 @@ public final class FaceTest {
         int constants = 0;
         for (Field f : PeaCups.class.getDeclaredFields()) {
             due.holds(f + " is public or private", (f.getModifiers() & (Modifier.PUBLIC | Modifier.PRIVATE)) != 0);
-            constants += Modifier.isPublic(f.getModifiers()) ? 1 : 0;
+            if (Modifier.isPublic(f.getModifiers())) {
+                constants++;
+                due.holds(f + " is a constant", Modifier.isStatic(f.getModifiers()) && Modifier.isFinal(f.getModifiers()));
+                due.holds(f + " has its type", f.getType() == (f.getName().equals("GONE") ? long.class : int.class));
+            }
         }
         due.same("public constants", constants, 7);
         for (Class<?> inside : PeaCups.class.getDeclaredClasses()) {
             due.holds(inside + " is static", Modifier.isStatic(inside.getModifiers()));
+            due.holds(inside + " is not in the face",
+                (inside.getModifiers() & (Modifier.PUBLIC | Modifier.PROTECTED)) == 0);
+            for (Method m : inside.getDeclaredMethods()) {
+                for (String method : METHODS) {
+                    due.holds(m + " bears a name of the face", !m.getName().equals(method.split(" ")[1]));
+                }
+            }
             for (Field f : inside.getDeclaredFields()) {
                 due.holds(f + " static is final",
                     !Modifier.isStatic(f.getModifiers()) || Modifier.isFinal(f.getModifiers()));

@@ -1,5 +1,10 @@
+import com.sun.source.tree.ArrayAccessTree;
+import com.sun.source.tree.AssignmentTree;
+import com.sun.source.tree.BinaryTree;
 import com.sun.source.tree.ClassTree;
 import com.sun.source.tree.CompilationUnitTree;
+import com.sun.source.tree.CompoundAssignmentTree;
+import com.sun.source.tree.ExpressionTree;
 import com.sun.source.tree.ForLoopTree;
 import com.sun.source.tree.MethodInvocationTree;
 import com.sun.source.tree.MethodTree;
@@ -9,6 +14,7 @@ import com.sun.source.tree.Tree;
 import com.sun.source.tree.VariableTree;
 import com.sun.source.tree.WhileLoopTree;
 import com.sun.source.util.JavacTask;
+import com.sun.source.util.TreePath;
 import com.sun.source.util.TreePathScanner;
 import com.sun.source.util.Trees;
 import java.io.IOException;
@@ -23,10 +29,12 @@ import javax.tools.JavaCompiler;
 import javax.tools.StandardJavaFileManager;
 import javax.tools.ToolProvider;
 
-/** The sizes that LANGUAGE.md sets (its rules 9, 11 and 12), and that no call makes an object. */
+/** The sizes that LANGUAGE.md sets (its rules 9, 11 and 12), the library (4), static arrays (5); no call makes an object. */
 public final class FormTest {
     private static final Due due = new Due();
     private static final int LOOP = 1000;
+    private static final Set<String> LIBRARY = Set.of("java.util.Arrays.fill", "java.lang.Integer.bitCount",
+        "java.lang.Math.min", "java.lang.Math.max", "java.lang.Object.<init>");
     private static final Map<Element, Set<Element>> callees = new HashMap<>();
     private static final Map<Element, Integer> depths = new HashMap<>();
 
@@ -108,10 +116,50 @@ public final class FormTest {
 
         @Override
         public Void visitMethodInvocation(MethodInvocationTree tree, Void none) {
+            Element callee = trees.getElement(getCurrentPath());
             if (method != null) {
-                callees.get(method).add(trees.getElement(getCurrentPath()));
+                callees.get(method).add(callee);
             }
+            String name = callee.getEnclosingElement() + "." + callee.getSimpleName();
+            due.holds("the library's " + name, name.startsWith("PeaCups.") || LIBRARY.contains(name));
             return super.visitMethodInvocation(tree, none);
+        }
+
+        /** An element of an array that is static is never changed. */
+        private void lookAtChanged(ExpressionTree changed) {
+            if (changed instanceof ArrayAccessTree access) {
+                Element array = trees.getElement(new TreePath(getCurrentPath(), access.getExpression()));
+                due.holds(access + " is changed", array != null && !array.getModifiers().contains(Modifier.STATIC));
+            }
+        }
+
+        @Override
+        public Void visitAssignment(AssignmentTree tree, Void none) {
+            lookAtChanged(tree.getVariable());
+            return super.visitAssignment(tree, none);
+        }
+
+        @Override
+        public Void visitCompoundAssignment(CompoundAssignmentTree tree, Void none) {
+            lookAtChanged(tree.getVariable());
+            if (tree.getKind() == Tree.Kind.DIVIDE_ASSIGNMENT || tree.getKind() == Tree.Kind.REMAINDER_ASSIGNMENT) {
+                lookAtDivisor(tree.getExpression());
+            }
+            return super.visitCompoundAssignment(tree, none);
+        }
+
+        /** A divisor is a constant, or one of the three that the code has looked at. */
+        @Override
+        public Void visitBinary(BinaryTree tree, Void none) {
+            if (tree.getKind() == Tree.Kind.DIVIDE || tree.getKind() == Tree.Kind.REMAINDER) {
+                lookAtDivisor(tree.getRightOperand());
+            }
+            return super.visitBinary(tree, none);
+        }
+
+        private void lookAtDivisor(ExpressionTree divisor) {
+            String words = divisor.toString();
+            due.holds("divided by " + words, words.matches("\\d+|[A-Z_]+|\\([A-Z_]+ \\* [A-Z_]+\\)|common|other|cupsLeft"));
         }
 
         @Override

@@ -4,7 +4,7 @@ import java.util.Collections;
 import java.util.List;
 import java.util.Random;
 
-/** Every call of the document on one object, 512 a run, the last as the first; each answer compared with Whole's. */
+/** Runs of 512 calls, of all kinds or of one kind alone, the last as the first; each answer compared with Whole's. */
 public final class LongRunsTest {
     private static final int CALLS = 512, RUNS = 400;
     private static final String[] NAMES = Edges.names().toArray(new String[0]);
@@ -21,17 +21,27 @@ public final class LongRunsTest {
 
     public static void main(String[] args) {
         for (int run = 0; run < RUNS; run++) {
-            x = new PeaCups();
-            whole = new Whole();
-            calls = 0;
-            log = new ArrayList<>();
+            begin();
             while (calls < CALLS) {
                 turn();
+            }
+        }
+        for (String name : NAMES) {
+            begin();
+            while (calls < CALLS) {
+                askOrEdge(name);
             }
         }
         due.same("calls of the document", NAMES.length, 25);
         due.holds("some are refused, most are not: " + refusals, refusals > RUNS * 20 && refusals < RUNS * CALLS / 2);
         due.end();
+    }
+
+    private static void begin() {
+        x = new PeaCups();
+        whole = new Whole();
+        calls = 0;
+        log = new ArrayList<>();
     }
 
     private static void turn() {
@@ -41,13 +51,16 @@ public final class LongRunsTest {
         } else if (kind == 4) {
             finish();
         } else {
-            String name = NAMES[random.nextInt(NAMES.length)];
-            int[] numbers = numbers(name);
-            if (random.nextInt(6) == 0 && numbers.length > 0) {
-                numbers[random.nextInt(numbers.length)] = EDGES[random.nextInt(EDGES.length)];
-            }
-            ask(name, numbers);
+            askOrEdge(NAMES[random.nextInt(NAMES.length)]);
         }
+    }
+
+    private static void askOrEdge(String name) {
+        int[] numbers = numbers(name);
+        if (random.nextInt(6) == 0 && numbers.length > 0) {
+            numbers[random.nextInt(numbers.length)] = EDGES[random.nextInt(EDGES.length)];
+        }
+        ask(name, numbers);
     }
 
     private static void ask(String name, int... numbers) {
